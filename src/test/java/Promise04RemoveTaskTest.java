@@ -7,6 +7,7 @@ public final class Promise04RemoveTaskTest {
         isGoneWholly();
         letsGoOfItsLocks();
         waitsNoMore();
+        whatIsAheadIsAskedAnew();
         CHECK.end();
     }
 
@@ -87,5 +88,32 @@ public final class Promise04RemoveTaskTest {
         CHECK.same("effective(0)", bench.effective(0), 90);
         CHECK.same("run(3)", bench.run(3), 3);
         CHECK.same("owner(0) when 0 is done", bench.owner(0), -1);
+    }
+
+    /** 1 is AHEAD of 2 by what it inherits of 3, and no more when 3 is gone. */
+    private static void whatIsAheadIsAskedAnew() {
+        for (int removed = 0; removed <= 1; removed++) {
+            DeadlineBench bench = new DeadlineBench(4, 2, 9, 5, 200);
+            bench.addTask(100, 10, 100);
+            bench.addSection(0, 0, 0, 10);
+            bench.tick();
+            bench.addTask(100, 5, 90);
+            bench.addSection(1, 0, 1, 5);
+            bench.addSection(1, 1, 0, 1);
+            bench.run(2);
+            bench.addTask(100, 1, 50);
+            bench.addSection(2, 0, 0, 1);
+            bench.tick();
+            bench.addTask(100, 1, 26);
+            bench.addSection(3, 0, 1, 1);
+            bench.tick();
+            CHECK.same("waiters(0)", bench.waiters(0), 2);
+            CHECK.same("effective(1)", bench.effective(1), 30);
+            if (removed == 1) {
+                CHECK.isTrue("removeTask(3)", bench.removeTask(3));
+            }
+            CHECK.isTrue("removeTask(0)", bench.removeTask(0));
+            CHECK.same("owner(0), 3 removed before " + removed, bench.owner(0), removed == 1 ? 2 : 1);
+        }
     }
 }

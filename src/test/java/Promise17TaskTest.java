@@ -12,6 +12,7 @@ public final class Promise17TaskTest {
         nextJobIsNotPutBy();
         doneJobIsNotPutBy();
         notPutByBehindAPause();
+        countsBeginAnew();
         CHECK.end();
     }
 
@@ -159,5 +160,23 @@ public final class Promise17TaskTest {
         bench.addTask(100, 1, 50);
         bench.tick();
         CHECK.same("PUT BY again", bench.task(0, 9), 2);
+    }
+
+    private static void countsBeginAnew() {
+        DeadlineBench bench = new DeadlineBench(2, 1, 9, 5, 200);
+        bench.addTask(100, 9, 100);
+        bench.addSection(0, 1, 0, 8);
+        bench.run(2);
+        bench.addTask(50, 3, 6);
+        bench.addSection(1, 1, 0, 1);
+        bench.run(7);
+        figures("0 holds the LOCK till 1 is late", bench, 0, 100, 9, 100, 100, 1, 1, 0, 0, 0, 1, 0);
+        figures("1 waits till it is late", bench, 1, 50, 3, 6, 52, 1, 1, 0, 1, 5, 0, 0);
+        bench.removeTask(0);
+        bench.removeTask(1);
+        bench.addTask(20, 2, 10);
+        bench.addTask(30, 3, 20);
+        figures("a new 0", bench, 0, 20, 2, 10, 9, 0, 0, 0, 0, 0, 0, 0);
+        figures("a new 1", bench, 1, 30, 3, 20, 9, 0, 0, 0, 0, 0, 0, 0);
     }
 }
