@@ -73,12 +73,12 @@ public final class Boundaries13And14LockTest {
     private static void fromNoWaiterToAll() {
         DeadlineBench bench = new DeadlineBench(40, 1, 120, 0, 200);
         for (int number = 0; number < 40; number++) {
-            bench.addTask(200, 2, 200);
+            bench.addTask(200, 3, 200);
         }
         for (int number = 0; number < 39; number++) {
             bench.removeTask(number);
         }
-        bench.addSection(39, 0, 0, 2);
+        bench.addSection(39, 0, 0, 3);
         bench.tick();
         lock("39 holds it", bench, 0, 39, 0);
         for (int number = 0; number < 39; number++) {
@@ -87,6 +87,8 @@ public final class Boundaries13And14LockTest {
         }
         lock("before the tick", bench, 0, 39, 0);
         CHECK.same("39 runs", bench.tick(), 39);
+        lock("all others wait", bench, 0, 39, 39);
+        CHECK.same("39 runs on", bench.tick(), 39);
         lock("39 let go", bench, 0, 0, 38);
         for (int number = 0; number < 39; number++) {
             CHECK.same("in its turn", bench.tick(), number);
